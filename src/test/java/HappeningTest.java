@@ -309,6 +309,11 @@ public final class HappeningTest {
         D.due("all of loaf 1", x.ofLoaf(1, 5), 16);
         D.due("none of loaf 0", x.ofLoaf(0, 5), 0);
         D.due("the oldest", x.ofMemory(15, 1), 10);
+        x.put(0, 10);
+        D.due("the oldest of sixteen fits", x.fits(1), 15);
+        D.due("ask for it", x.ask(1), 10);
+        D.due("it was given again", x.ofLoaf(1, 4), 1);
+        D.due("and is the last used now", x.ofMemory(0, 4), 2);
     }
 
     private static void askLeavesOutWhatIsForgottenMeanwhile() {
