@@ -59,6 +59,18 @@ final class AskingSentences {
         s.due("ask with b = 0 once more", x.ask(1), 0);
         s.due("#0 by the memory of 0 alone, it was used last", x.ofLoaf(0, 4), 6);
         s.due("two bakings", x.ofLoaf(1, 3), 2);
+        LoafMemory y = twoLoaves("b");
+        y.set(LoafMemory.ROOM, 16);
+        for (int number = 0; number < 16; number++) {
+            y.put(0, number);
+            y.ask(0);
+        }
+        for (int number = 0; number < 16; number++) {
+            y.put(0, number);
+            s.due("the last one of sixteen", y.ask(0), number);
+            s.due("is given again", y.ofLoaf(0, 4), number + 1);
+        }
+        s.due("sixteen bakings", y.ofLoaf(0, 3), 16);
     }
 
     private void forgottenMeanwhile() {
@@ -88,6 +100,18 @@ final class AskingSentences {
         s.due("ask(1), the older memory goes while the other one is looked at", z.ask(1), 10);
         s.due("its #0 is not asked for", z.ofLoaf(0, 4), 3);
         s.due("memories of loaf 1", z.ofLoaf(1, 5), 2);
+
+        LoafMemory v = twoLoaves("(#0+b)");
+        Texts.recipe(v, 0, "7");
+        v.ask(1);
+        v.put(1, 1);
+        v.ask(1);
+        v.forget(1);
+        v.set(LoafMemory.ROOM, 2);
+        v.put(1, 2);
+        s.due("ask(1), the older memory goes, and loaf 0, which looks at nothing, comes", v.ask(1), 9);
+        s.due("loaf 1 is baked", v.ofLoaf(1, 3) * 10 + v.ofLoaf(1, 4), 30);
+        order(v, "10");
     }
 
     private void upToTheFirst() {

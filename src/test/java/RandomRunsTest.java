@@ -171,7 +171,7 @@ public final class RandomRunsTest {
             int m = odd(random.nextInt(Math.max(1, Math.min(16, y.count(0)))));
             w = odd(random.nextInt(5));
             same("ofMemory(" + m + ", " + w + ")", x.ofMemory(m, w), y.ofMemory(m, w));
-            int k = odd(random.nextInt(3));
+            int k = odd(random.nextInt(Math.max(1, y.ofMemory(m, 2)) + 1));
             w = odd(random.nextInt(2));
             same("look(" + m + ", " + k + ", " + w + ")", x.look(m, k, w), y.look(m, k, w));
         }

@@ -27,7 +27,7 @@ public final class RoomTest {
         for (int loaf = 0; loaf < 6; loaf++) {
             Texts.recipe(x, loaf, texts[loaf]);
         }
-        for (int i = 0; i < 80; i++) {
+        for (int i = 0; i < 66; i++) {
             x.set(LoafMemory.ROOM, 1 + i % 16);
             x.put(0, i);
             D.due("ask", x.ask(5), x.fresh(5));

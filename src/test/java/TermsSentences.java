@@ -274,6 +274,10 @@ final class TermsSentences {
         fault("(l+m)", 3);
         fault("ab", 1);
         fault("a1", 1);
+        fault("b1", 1);
+        fault("l0", 1);
+        fault("(b2+c)", 2);
+        fault("(1+c3)", 4);
     }
 
     private void loafDigits() {
@@ -304,6 +308,11 @@ final class TermsSentences {
         fault("01", 1);
         fault("09", 1);
         fault("007", 1);
+        fault("(1+2)3", 5);
+        fault("{1?2:3}4", 7);
+        fault("({1?2:3}4+5)", 8);
+        fault("1(", 1);
+        fault("12a", 2);
         fault("(00+1)", 2);
         fault("(1+05)", 4);
         fault("(0+0)", -6);

@@ -186,27 +186,14 @@ public final class WhatIfTest {
         LoafMemory x = baker();
         x.ask(3);
         x.put(2, 1);
-        long before = told(x);
+        String before = Told.all(x);
         x.fresh(3);
         x.fits(3);
         x.looksAt(3);
         x.changes(2, 8);
         x.numberFor(2, 3, 77);
         x.stepsFor(3);
-        D.due("nothing changes", told(x), before);
-    }
-
-    private static long told(LoafMemory x) {
-        long all = 17;
-        for (int what = 0; what < 8; what++) {
-            all = all * 31 + x.count(what);
-            for (int i = 0; i < 12; i++) {
-                all = all * 31 + x.ofShelf(i, what);
-                all = all * 31 + x.ofLoaf(i, what);
-                all = all * 31 + x.ofMemory(i, what);
-            }
-        }
-        return all;
+        D.holds("nothing changes", Told.all(x).equals(before));
     }
 
     private static void wrongInputs() {
