@@ -257,7 +257,16 @@ public final class LoafMemory {
     }
 
     public int fits(int loaf) {
-        return isLoaf(loaf) ? baker.fittingPlace(state, loaf) : NO_SUCH;
+        if (!isLoaf(loaf)) {
+            return NO_SUCH;
+        }
+        for (int place = 0; place < state.memoryCount; place++) {
+            Memory meant = state.memories[place];
+            if (meant.loaf == loaf && baker.wouldFit(state, meant)) {
+                return place;
+            }
+        }
+        return NONE;
     }
 
     public int looksAt(int loaf) {
@@ -868,10 +877,14 @@ public final class LoafMemory {
             return shelvesSeen;
         }
 
-        int fittingPlace(State where, int loaf) {
+        boolean wouldFit(State where, Memory memory) {
             begin(where, true);
-            int place = fittingMemory(loaf);
-            return place < 0 ? NONE : place;
+            for (int i = 0; i < memory.lookCount; i++) {
+                if (memory.values[i] != valueNow(memory.looks[i], memory.loaf)) {
+                    return false;
+                }
+            }
+            return true;
         }
 
         private void begin(State where, boolean withoutMemories) {
