@@ -271,6 +271,8 @@ final class WhatIfSentences {
         s.due("a poisoned shelf", x.numberFor(0, 0, 7), -6);
         s.due("a shelf that is not looked at", x.numberFor(11, 5, 8), -6);
         s.due("POISON of clean ones", x.numberFor(3, 5, 100), -6);
+        s.due("POISON of a clean one that is looked at", x.numberFor(3, 1, 100), -6);
+        s.due("POISON of a clean one that a named loaf looks at", x.numberFor(3, 3, 100), -6);
         s.due("a number of no recipe", x.numberFor(0, 2, 0), -6);
     }
 
