@@ -724,7 +724,9 @@ public final class LoafMemory {
             System.arraycopy(other.numbers, 0, numbers, 0, SHELVES);
             poisoned = other.poisoned;
             System.arraycopy(other.settings, 0, settings, 0, settings.length);
-            System.arraycopy(other.recipes, 0, recipes, 0, LOAVES);
+            for (int i = 0; i < LOAVES; i++) {
+                recipes[i] = other.recipes[i];
+            }
             memoryCount = other.memoryCount;
             for (int i = 0; i < memoryCount; i++) {
                 memories[i].copyFrom(other.memories[i]);
